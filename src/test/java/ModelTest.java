@@ -366,7 +366,16 @@ public final class ModelTest {
     return (int) ((seed >>> 33) % n);
   }
 
-  private static int near(int most) { return pick(12) == 0 ? (pick(2) == 0 ? -1 - pick(3) : most + 1 + pick(3)) : pick(most + 1); }
+  private static int near(int most) {
+    if (pick(12) > 0) return pick(most + 1);
+    switch (pick(6)) {
+      case 0: return Integer.MIN_VALUE + pick(3);
+      case 1: return Integer.MAX_VALUE - pick(3);
+      case 2: return 1 << pick(32);
+      case 3: return most + 1 + pick(3);
+      default: return -1 - pick(3);
+    }
+  }
 
   private static String text(int style) {
     StringBuilder s = new StringBuilder();

@@ -151,9 +151,11 @@ public final class PromisesTest {
   }
 
   private static void houseForgetsDeeds() {
-    BoardStones x = told("d7 3 1 0;p0 1 1;c1;");
-    x.goes(0, 0); x.offends(0, 0, 1); x.calls(1);
-    read(x, "d7 3 1 0;p0 1 1;c2;");
+    BoardStones x = told("d7 3 1 0;p0 1 1;c1;c9;");
+    x.goes(0, 0); x.offends(0, 0, 1); x.offends(0, 1, 4); x.calls(1); x.keep(0);
+    read(x, "d7 3 1 0;p0 1 1;c2;c9;");
+    due("back(0)", x.back(0), STATE);
+    due("hurt", x.child(1, 1), 0);
     due("laughs", x.now(0), 0);
     due("weary", x.director(0, 4), 0);
     due("looked into", x.director(0, 5), 0);
@@ -409,6 +411,9 @@ public final class PromisesTest {
     due("way(0, 0, 2)", x.way(0, 0, 2), BAD);
     due("way(0, 0, -1)", x.way(0, 0, -1), BAD);
     due("nothing is changed", x.director(0, 4), 0);
+    BoardStones pairOfRooms = told("r2;p0 1 3;d9 2 0 1;");
+    due("two rooms", pairOfRooms.way(0, 0, 0), 6);
+    due("two rooms", pairOfRooms.director(0, 7), 3);
     BoardStones chain = told("r8;p6 7 9;p5 6 9;p4 5 9;p3 4 9;p2 3 9;p1 2 9;p0 1 9;d39 30 0 0;");
     due("longest", chain.way(0, 7, 0), 30 * 9 * 7);
     due("longest", chain.way(0, 7, 1), 7);
@@ -418,6 +423,7 @@ public final class PromisesTest {
     BoardStones x = told("r5;p0 1 9;p0 2 3;p2 1 4;p1 3 0;d20 10 0 0;d14 5 0 0;d40 0 0 3;d3 30 0 3;d7 3 0 0;");
     int[][] want = {{60, 6, 7, 6, NONE}, {60, 5, 6, 5, NONE}, {36, 40, 36, 60, NONE}, {NONE, NONE, NONE, 60, NONE}, {60, 0, 1, 0, NONE}};
     for (int d = 0; d < 5; d++) for (int room = 0; room < 5; room++) due("edge(" + d + ", " + room + ")", x.edge(d, room), want[d][room]);
+    due("by the most steps", told("p0 1 9;d12 2 0 0;").edge(0, 1), 1);
     due("edge(5, 0)", x.edge(5, 0), BAD);
     due("edge(-1, 0)", x.edge(-1, 0), BAD);
     due("edge(0, 5)", x.edge(0, 5), BAD);
