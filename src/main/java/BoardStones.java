@@ -619,7 +619,8 @@ public final class BoardStones {
         private void readPath(House house) {
             failed = house.paths >= MOST_PATHS;
             int a = readNumber(0, house.rooms - 1);
-            int b = readOther(a, house.rooms - 1);
+            int b = readNumber(0, house.rooms - 1);
+            refuseAlike(a, b);
             int steps = readNumber(0, MOST_STEPS);
             readStop();
             if (!failed) {
@@ -641,7 +642,8 @@ public final class BoardStones {
 
         private void readFriends(House house) {
             int a = readNumber(0, house.directors - 1);
-            int b = readOther(a, house.directors - 1);
+            int b = readNumber(0, house.directors - 1);
+            refuseAlike(a, b);
             readStop();
             if (!failed) {
                 house.addFriends(a, b);
@@ -668,10 +670,8 @@ public final class BoardStones {
             return value;
         }
 
-        private int readOther(int unlike, int most) {
-            int number = readNumber(0, most);
-            failed = failed || number == unlike;
-            return number;
+        private void refuseAlike(int a, int b) {
+            failed = failed || a == b;
         }
 
         private void readStop() {
